@@ -27,14 +27,12 @@ public final class PowerBonds {
     private final Answer answer = new Answer();
     private final Answer otherAnswer = new Answer();
     private final LineUps lineUps = new LineUps();
-    private final byte[] tape = new byte[MAX_TAPE];
-    private final TextReader reader = new TextReader(tape);
+    private final Tape tape = new Tape();
     /** Where texts are worked out. */
     private final int[] desk = new int[MAX_TAPE];
     private final int[] waiting = new int[MAX_WAITING];
     private final Sheet[] sheets = new Sheet[SHEETS];
     private final Slot[] slots = new Slot[SLOTS];
-    private int tapeSize;
     private int waitingCount;
     private boolean imageKept;
 
@@ -199,28 +197,28 @@ public final class PowerBonds {
     }
 
     public int feed(int a, int b, int c) {
-        if (tapeSize + 12 > MAX_TAPE) {
+        if (tape.size + 12 > MAX_TAPE) {
             return FULL;
         }
-        putBytes(a);
-        putBytes(b);
-        putBytes(c);
-        return tapeSize;
+        tape.putBytes(a);
+        tape.putBytes(b);
+        tape.putBytes(c);
+        return tape.size;
     }
 
     public int trim(int n) {
-        if (n < 0 || n > tapeSize) {
+        if (n < 0 || n > tape.size) {
             return BAD;
         }
-        tapeSize = n;
+        tape.size = n;
         return n;
     }
 
     public int text() {
-        Text come = reader.parse(tapeSize);
-        tapeSize = 0;
+        Text come = tape.parse();
+        tape.size = 0;
         if (come == null) {
-            return -100 - reader.place;
+            return -100 - tape.place;
         }
         if (machine.textCount >= MAX_TEXTS) {
             return FULL;
@@ -271,7 +269,7 @@ public final class PowerBonds {
         if (found != ONE_ANSWER) {
             return found;
         }
-        return machine.texts[counting].workOut(desk, machine.step, answer.push[bond], answer.pace[bond]);
+        return machine.textGives(counting, desk, answer.push[bond], answer.pace[bond]);
     }
 
     // ---- what moves what
@@ -544,7 +542,7 @@ public final class PowerBonds {
             case 3: return machine.storesTogether();
             case 4: return machine.textCount;
             case 5: return waitingCount;
-            case 6: return tapeSize;
+            case 6: return tape.size;
             case 7: return machine.step;
             default: return BAD;
         }
@@ -593,13 +591,6 @@ public final class PowerBonds {
             }
         }
         return bits;
-    }
-
-    private void putBytes(int four) {
-        for (int shift = 24; shift >= 0 && tapeSize < MAX_TAPE; shift -= 8) {
-            tape[tapeSize] = (byte) (four >> shift);
-            tapeSize++;
-        }
     }
 
     private static boolean isKind(int kind) {
@@ -814,11 +805,16 @@ public final class PowerBonds {
             return ABSENT;
         }
 
+        int textGives(int number, int[] desk, int first, int second) {
+            Text text = texts[number];
+            return text == null ? 0 : text.workOut(desk, step, first, second);
+        }
+
         /** Without such a give, or a text for it, nothing is done. */
         void followText(int part, int[] desk) {
             int counting = textFor(KEY_GIVE, part);
             if (counting != ABSENT && hasPart(part) && parts[part].kind == GIVE) {
-                parts[part].hold = worthOf(texts[counting].workOut(desk, step, parts[part].hold, 0));
+                parts[part].hold = worthOf(textGives(counting, desk, parts[part].hold, 0));
             }
         }
 
@@ -916,6 +912,7 @@ public final class PowerBonds {
             }
         }
 
+        /** There is always room: a whole machine has as many laws as unknowns. */
         private long[] newRow() {
             long[] row = rows[rowCount];
             Arrays.fill(row, 0L);
@@ -1071,7 +1068,8 @@ public final class PowerBonds {
 
         /** A part is against all line-ups that differ below its least bond alone, so these are passed over. */
         private int nextWithout(int part, int bits) {
-            int least = Integer.lowestOneBit(coming[part] | going[part]);
+            int own = coming[part] | going[part];
+            int least = own & -own;
             return least == 0 ? bits + 1 : (bits | least - 1) + 1;
         }
 
@@ -1183,29 +1181,32 @@ public final class PowerBonds {
         }
     }
 
-    /** Reads the tape as a text, word by word; the word at which it stops is the fault. */
-    private static final class TextReader {
+    /** The tape, and how it is read as a text, word by word: the word at which that stops is the fault. */
+    private static final class Tape {
         private static final int END = 0, LETTERS = 1, DIGITS = 2, SIGN = 3, STUCK = 4;
         private static final int TEST_LEVEL = 2, PIECE_LEVEL = 5;
 
+        int size;
         /** Where the word that is looked at begins. */
         int place;
+        private final byte[] bytes = new byte[MAX_TAPE];
         private int behind;
         private int sort;
-        private final byte[] tape;
-        private int size;
         private int key;
         private final int[] code = new int[MAX_TAPE];
         private int codeSize;
         private int operands;
 
-        TextReader(byte[] tape) {
-            this.tape = tape;
+        /** The highest byte first. */
+        void putBytes(int four) {
+            for (int shift = 24; shift >= 0 && size < MAX_TAPE; shift -= 8) {
+                bytes[size] = (byte) (four >> shift);
+                size++;
+            }
         }
 
-        /** Null if there is a fault. */
-        Text parse(int bytes) {
-            size = bytes;
+        /** Null if there is a fault, then at place. */
+        Text parse() {
             behind = 0;
             sort = END;
             codeSize = 0;
@@ -1232,7 +1233,7 @@ public final class PowerBonds {
             boolean wasWord = sort == LETTERS || sort == DIGITS;
             int ended = behind;
             place = ended;
-            while (place < size && tape[place] == ' ') {
+            while (place < size && bytes[place] == ' ') {
                 place++;
             }
             behind = place;
@@ -1256,10 +1257,10 @@ public final class PowerBonds {
             if (at >= size) {
                 return END;
             }
-            if (tape[at] >= 'a' && tape[at] <= 'z') {
+            if (bytes[at] >= 'a' && bytes[at] <= 'z') {
                 return LETTERS;
             }
-            return tape[at] >= '0' && tape[at] <= '9' ? DIGITS : SIGN;
+            return bytes[at] >= '0' && bytes[at] <= '9' ? DIGITS : SIGN;
         }
 
         private int keyHere() {
@@ -1274,7 +1275,7 @@ public final class PowerBonds {
                 return false;
             }
             for (int i = 0; i < word.length(); i++) {
-                if (tape[place + i] != word.charAt(i)) {
+                if (bytes[place + i] != word.charAt(i)) {
                     return false;
                 }
             }
@@ -1287,7 +1288,7 @@ public final class PowerBonds {
             }
             int number = 0;
             for (int i = place; i < behind; i++) {
-                number = 10 * number + tape[i] - '0';
+                number = 10 * number + bytes[i] - '0';
             }
             return number;
         }
@@ -1296,12 +1297,12 @@ public final class PowerBonds {
             if (sort != LETTERS || behind - place != 1) {
                 return false;
             }
-            int letter = tape[place];
+            int letter = bytes[place];
             return letter == 't' || (key == KEY_GIVE ? letter == 'h' : letter == 'p' || letter == 'f');
         }
 
         private boolean isSign(int sign) {
-            return sort == SIGN && tape[place] == sign;
+            return sort == SIGN && bytes[place] == sign;
         }
 
         private boolean joinsAt(int level) {
@@ -1329,7 +1330,7 @@ public final class PowerBonds {
             boolean good = readLevel(level + 1, open, inside);
             int most = level == TEST_LEVEL ? 1 : MAX_TAPE;
             for (int i = 0; i < most && good && joinsAt(level); i++) {
-                int sign = tape[place];
+                int sign = bytes[place];
                 goOn();
                 good = readLevel(level + 1, open, inside);
                 put(-sign);
@@ -1360,7 +1361,7 @@ public final class PowerBonds {
             if (number == ABSENT && !isName()) {
                 return false;
             }
-            put(number == ABSENT ? -tape[place] : number);
+            put(number == ABSENT ? -bytes[place] : number);
             operands++;
             goOn();
             return true;

@@ -177,14 +177,17 @@ public final class ImagesTest {
         PowerBonds x = machine();
         x.part(STORE, 1, 11);
         x.part(LOSS, 1, 11);
+        x.part(LOSS, 1, 21);
+        x.part(LOSS, 1, 11);
         x.bond(2, 3);
+        x.bond(4, 5);
         x.set(0, 3, 1000000);
         x.set(2, 3, 5);
         x.set(3, 3, 100);
         x.tell(1);
         x.feed(0, 0, 0);
         x.trim(7);
-        int[] want = {4, 2, 2, 2, 1, 1, 7, 0};
+        int[] want = {6, 3, 2, 2, 1, 1, 7, 0};
         for (int i = 0; i < 8; i++) {
             DUE.due("count(" + i + ")", x.count(i), want[i]);
         }

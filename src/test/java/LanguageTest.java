@@ -35,8 +35,7 @@ public final class LanguageTest {
     }
 
     private static void library(String code) {
-        List<String> allowed = List.of("Arrays.fill", "Arrays.copyOf", "System.arraycopy", "Math.floorMod", "Integer.bitCount",
-            "Integer.lowestOneBit");
+        List<String> allowed = List.of("Arrays.fill", "Arrays.copyOf", "System.arraycopy", "Math.floorMod", "Integer.bitCount");
         Matcher called = Pattern.compile("\\b(Arrays|System|Math|Integer|Long|String|List|ArrayList)\\.(\\w+)").matcher(code);
         while (called.find()) {
             if (!called.group(2).equals("util")) {

@@ -46,6 +46,7 @@ public final class MovesTest {
         for (int[] b : bad) {
             DUE.due("moves(" + b[0] + ", " + b[1] + ", " + b[2] + ")", x.moves(b[0], b[1], b[2]), PowerBonds.BAD);
         }
+        firstStore();
         x.part(GIVE, 0, 11);
         DUE.due("not whole", x.moves(1, 0, 0), PowerBonds.NO);
         x.part(GIVE, 0, 11);
@@ -54,6 +55,18 @@ public final class MovesTest {
         DUE.due("none as it is", x.answers(), PowerBonds.NO);
         DUE.due("but many of a give elsewhere", x.moves(1, 0, 0), PowerBonds.MANY);
         DUE.due("none of one of these", x.moves(5, 0, 0), PowerBonds.NO);
+    }
+
+    /** Part 0 holds 0 then, as all others do. */
+    private static void firstStore() {
+        PowerBonds x = new PowerBonds();
+        x.part(STORE, 0, 51);
+        x.part(GIVE, 1, 11);
+        x.bond(0, 1);
+        x.set(0, 3, 9);
+        x.set(1, 3, 9);
+        DUE.due("push of the store", x.moves(1, 0, 0), 0);
+        DUE.due("pace of the give", x.moves(1, 0, 1), 1);
     }
 
     private static void signs() {
@@ -110,6 +123,7 @@ public final class MovesTest {
         DUE.due("STORE and LOSS", x.apart(3, 2), 1);
         DUE.due("GIVE and JOIN", x.apart(1, 0), 0);
         DUE.due("GIVE and LOSS", x.apart(1, 2), 1);
+        DUE.due("LOSS and GIVE", x.apart(2, 1), 1);
         DUE.due("one", x.apart(2, 2), PowerBonds.BAD);
         DUE.due("apart(0, 5)", x.apart(0, 5), PowerBonds.BAD);
         DUE.due("apart(5, 0)", x.apart(5, 0), PowerBonds.BAD);

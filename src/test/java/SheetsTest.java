@@ -111,6 +111,17 @@ public final class SheetsTest {
         DUE.due("the first", x.told(1, 3), 0);
         x.sheet(2, 0, 0);
         DUE.due("no place", x.pour(2), 0);
+        PowerBonds full = new PowerBonds();
+        full.sheet(3, 0, 24);
+        for (int i = 0; i < 12; i++) {
+            full.part(STORE, 0, 11);
+            full.mark(3, i, -1 - i);
+        }
+        DUE.due("twelve stores", full.pour(3), 12);
+        for (int i = 0; i < 12; i++) {
+            DUE.due("store " + i, full.told(i, 3), 1000002 - i);
+        }
+        DUE.due("together", full.count(3), 1000003 - 78);
     }
 
     private static PowerBonds row(int sort) {
@@ -141,6 +152,9 @@ public final class SheetsTest {
             tells("up", x, 0, 10, 10, 11, 12, 13, 14);
             DUE.due("copy down", x.copy(0, 2, 0, 0, 4), 4);
             tells("down", x, 0, 11, 12, 13, 14, 13, 14);
+            DUE.due("all", x.copy(0, 0, 0, 0, 6), 6);
+            DUE.due("all of another", x.copy(1, 0, 0, 2, 4), 4);
+            tells("all", x, 0, 11, 12, 0, 12, 13, 14);
             DUE.due("none", x.copy(0, 0, 1, 0, 0), 0);
             DUE.due("none behind the last ones", x.copy(0, 6, 1, 4, 0), 0);
             DUE.due("none further", x.copy(0, 7, 1, 4, 0), PowerBonds.INDEX);

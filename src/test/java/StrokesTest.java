@@ -8,6 +8,7 @@ public final class StrokesTest {
         inner();
         stores();
         widest();
+        changes();
         refusals();
         DUE.end();
     }
@@ -119,6 +120,22 @@ public final class StrokesTest {
             x.bond(0, 1);
         }
         tells("JOINS of one sort", x, 0, 0, 0, 0);
+    }
+
+    /** What was there ahead of a change is gone. */
+    private static void changes() {
+        PowerBonds x = star(JOIN, 0, 3);
+        tells("three ends", x, 1, 0, 0, 3);
+        x.breaks(0);
+        x.part(LOSS, 0, 11);
+        x.bond(1, 4);
+        tells("two ends and a pair", x, 1, 0, 0, 4);
+        x.dual();
+        tells("the dual of these", x, 1, 0, 0, 4);
+        x.part(GIVE, 0, 11);
+        x.part(GIVE, 1, 11);
+        x.bond(6, 5);
+        tells("one pair more", x, 8 + 1, 0, 0, 4);
     }
 
     private static void refusals() {

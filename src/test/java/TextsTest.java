@@ -80,6 +80,11 @@ public final class TextsTest {
         fault("give 1 f", 7);
         fault("read 1 h", 7);
         fault("give 1 th", 7);
+        fault("give 1 tz", 7);
+        fault("give 1 at", 7);
+        fault("live 1 t", 0);
+        fault("lead 1 t", 0);
+        fault("give 1 z", 7);
         fault("give 1 t h", 9);
         fault("give 1 2 3", 9);
         fault("give 1 2t", 8);
@@ -209,6 +214,10 @@ public final class TextsTest {
         gives("2<1", 0);
         gives("2<2", 0);
         gives("2>1", 1);
+        gives("2>2", 0);
+        gives("1&1", 1);
+        gives("0&1", 0);
+        gives("1|1", 1);
         gives("1>2", 0);
         gives("2=2", 1);
         gives("2=1", 0);
