@@ -7,6 +7,8 @@ public final class FullTest {
         answer();
         steps();
         others();
+        strokes();
+        texts();
         DUE.end();
     }
 
@@ -71,6 +73,37 @@ public final class FullTest {
         DUE.due("STORES", x.count(2), 4);
         DUE.due("together", x.count(3), 10);
         DUE.due("a reading of the last bond", x.read(11), 2 * (1000003 - 3) - 2);
+    }
+
+    /**
+     * JOIN 0 settles all but one of seven, JOIN 1 just one of seven; GIVES of pace do not settle, of push do. All STORES sum:
+     * those at JOIN 0 don't settle, those at JOIN 1 do. With one bond between both settled by JOIN 1, all its LOSSES settle,
+     * and none at JOIN 0 do.
+     */
+    private static void strokes() {
+        PowerBonds x = build();
+        DUE.due("STORES that SUM", x.strokes(1), 4);
+        DUE.due("TIED", x.strokes(2), 0);
+        DUE.due("the least: bond 0 by JOIN 0, bond 11 by JOIN 1, parts 7 .. 11 by themselves", x.strokes(0), 0b011111000000);
+        DUE.due("it can be", x.can(0b011111000000), 1);
+        DUE.due("these two by the other joins can, too", x.can(0b111111000001), 1);
+        DUE.due("both by JOIN 0 can not", x.can(0b111111000000), 0);
+        DUE.due("who settles bond 11", x.of(11, 5), 6);
+        DUE.due("who settles bond 10", x.of(10, 5), 11);
+    }
+
+    private static void texts() {
+        PowerBonds x = build();
+        for (int i = 0; i < 14; i++) {
+            Tape.text(x, "give 1 " + (100 + i));
+        }
+        DUE.due("keep()", x.keep(), 0);
+        x.run(1);
+        DUE.due("back()", x.back(), 0);
+        DUE.due("texts", x.count(4), 14);
+        DUE.due("the last", x.why(0, 1), 13);
+        x.run(1);
+        DUE.due("what it gives", x.told(1, 3), 113);
     }
 
     private static void others() {
