@@ -18,6 +18,7 @@ final class AnswersBounds {
         answers(b);
         pieces(b);
         widestJoin(b);
+        smaller(b);
     }
 
     private static void ofValues(Bounds b) {
@@ -231,5 +232,55 @@ final class AnswersBounds {
         b.due("PACE of the last", y.of(11, 3), 0);
         y.part(JOIN, 0, 11);
         b.due("a JOIN alone", y.answers(), NO);
+        PowerBonds z = Bounds.parts(JOIN, 2);
+        for (int i = 0; i < 12; i++) {
+            z.bond(0, 1);
+        }
+        b.due("two JOINS of one SORT", z.answers(), MANY);
+        b.due("the last of twelve BONDS", z.of(11, 2), MANY);
+        PowerBonds none = new PowerBonds();
+        none.part(JOIN, 0, 11);
+        none.part(JOIN, 0, 11);
+        none.part(GIVE, 0, 11);
+        none.part(GIVE, 0, 11);
+        none.bond(2, 0);
+        none.bond(3, 1);
+        for (int i = 2; i < 12; i++) {
+            none.bond(0, 1);
+        }
+        b.due("the same PUSH at both", none.answers(), MANY);
+        none.set(3, 3, 1);
+        b.due("unlike PUSHES at both", none.answers(), NO);
+    }
+
+    /** What a larger machine left behind is none of a smaller one's laws. */
+    private static void smaller(Bounds b) {
+        b.promise(10, "of the machine as it is, whatever it was ahead");
+        for (int hold = 0; hold < 2; hold++) {
+            PowerBonds x = new PowerBonds();
+            Bounds.tieGives(x, hold);
+            x.keep();
+            for (int i = 2; i < 12; i += 2) {
+                x.part(GIVE, 0, 11);
+                x.part(GIVE, 1, 11);
+                x.bond(i, i + 1);
+                x.set(i, 3, i);
+                x.set(i + 1, 3, i + 1);
+                b.due("of " + (i + 2) + " PARTS", x.answers(), hold == 0 ? MANY : NO);
+            }
+            x.back();
+            b.due("of two again", x.answers(), hold == 0 ? MANY : NO);
+        }
+        PowerBonds y = Bounds.pair(GIVE, 0, GIVE, 1);
+        y.keep();
+        y.part(GIVE, 0, 11);
+        y.part(LOSS, 0, 21);
+        y.bond(2, 3);
+        y.set(2, 3, 8);
+        b.due("PUSH of the second BOND", y.of(1, 3), 4);
+        y.back();
+        b.due("PUSH of the only one", y.of(0, 2), 0);
+        b.due("PACE of the only one", y.of(0, 3), 0);
+        b.due("BONDS that are gone", y.of(1, 2), BAD);
     }
 }

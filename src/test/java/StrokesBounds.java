@@ -94,6 +94,14 @@ final class StrokesBounds {
             x.bond(2 * i, 2 * i + 1);
             b.due("of " + (i + 1) + " pairs", x.strokes(3), 2 << i);
         }
+        PowerBonds half = Bounds.pair(LOSS, 0, LOSS, 0);
+        half.part(GIVE, 0, 11);
+        half.part(LOSS, 0, 11);
+        half.bond(2, 3);
+        b.due("the lower half", half.strokes(3), 2);
+        half.dual();
+        b.due("the upper half", half.strokes(3), 2);
+        b.due("the least of the upper half", half.strokes(0), 2);
         b.due("the least of all", x.strokes(0), 0);
         b.due("STORES that SUM, of none", x.strokes(1), 0);
         b.due("TIED, of none", x.strokes(2), 0);
@@ -153,6 +161,21 @@ final class StrokesBounds {
         b.due("can(1)", x.can(1), 1);
         b.due("can(3)", x.can(3), 0);
         b.due("can(6)", x.can(6), 1);
+        PowerBonds y = new PowerBonds();
+        y.part(JOIN, 0, 11);
+        for (int i = 1; i <= 3; i++) {
+            y.part(LOSS, 0, 11);
+            y.bond(i, 0);
+        }
+        b.due("three that come", y.strokes(3), 3);
+        y.breaks(0);
+        y.part(LOSS, 0, 11);
+        y.bond(1, 4);
+        b.due("two that come and a pair", y.strokes(3), 4);
+        b.due("can(0)", y.can(0), 0);
+        b.due("can(2)", y.can(2), 1);
+        b.due("can(5)", y.can(5), 1);
+        b.due("can(7)", y.can(7), 0);
     }
 
     private static void canValues(Bounds b) {
