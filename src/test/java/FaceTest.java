@@ -90,6 +90,18 @@ public final class FaceTest {
                 due.holds(field + ": static fields are final",
                     !Modifier.isStatic(field.getModifiers()) || Modifier.isFinal(field.getModifiers()));
             }
+            fieldsOf(due, one);
         }
+        fieldsOf(due, PowerBonds.class);
+    }
+
+    private static void fieldsOf(Due due, Class<?> one) {
+        int fields = 0;
+        for (Field field : one.getDeclaredFields()) {
+            if (!Modifier.isStatic(field.getModifiers())) {
+                fields++;
+            }
+        }
+        due.holds(one + " has " + fields + " fields, at most twenty", fields <= 20);
     }
 }
